@@ -392,8 +392,9 @@ public final class PairNames {
 
     /**
      * The bits that Double.doubleToLongBits would give, which the program's Java leaves out. For
-     * shares alone: they are 0.0, or between 2 to the power of -53 and 128 but for the sign, so 64
-     * turns reach the leading bit.
+     * shares alone: each name and part is in the text, so the size is below twice its length, and a
+     * share lies between -1 and 1. As 1.0 less something it is 0.0 or not nearer to 0 than 2 to the
+     * power of -53, so 64 turns reach the leading bit.
      */
     private static long bitsOf(double share) {
         if (share == 0.0) {
@@ -401,10 +402,6 @@ public final class PairNames {
         }
         double rest = share < 0.0 ? -share : share;
         long exponent = 1023L;
-        for (int i = 0; i < 64 && rest >= 2.0; i++) {
-            rest = rest / 2.0;
-            exponent++;
-        }
         for (int i = 0; i < 64 && rest < 1.0; i++) {
             rest = rest * 2.0;
             exponent--;
@@ -608,7 +605,7 @@ public final class PairNames {
         int nameFor(int first, int second) {
             int unused = NONE;
             for (int name = PARTS - 1; name >= SIGNS; name--) {
-                if (!hasPart(name)) {
+                if (firsts.at(name) == NONE) {
                     unused = name;
                 } else if (firsts.at(name) == first && seconds.at(name) == second) {
                     return name;
