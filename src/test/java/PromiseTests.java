@@ -1,17 +1,5 @@
-import java.util.function.Supplier;
-
 /** One method for each promise: ordinary inputs, the edges that the document names, wrong inputs. */
-public final class PromiseTests {
-
-    private static final String ISE = "IllegalStateException";
-    private static final String IAE = "IllegalArgumentException";
-    private static final String IOOBE = "IndexOutOfBoundsException";
-    private static final int[] EXTREMES = {
-        Integer.MIN_VALUE, Integer.MIN_VALUE + 1, -65536, -2, Integer.MAX_VALUE, Integer.MAX_VALUE - 1, 65536, 1000};
-
-    private static int checks = 0;
-    private static int wrong = 0;
-    private static String promise = "";
+public final class PromiseTests extends Checks {
 
     public static void main(String[] args) {
         newObject();
@@ -40,133 +28,13 @@ public final class PromiseTests {
         bestOften();
         saved();
         digest();
-        System.out.println(checks + " checks, " + wrong + " wrong");
-        if (wrong != 0) {
-            System.exit(1);
-        }
-    }
-
-    // ---- the harness
-
-    private static void due(String what, Object got, Object want) {
-        checks++;
-        if (!got.equals(want)) {
-            wrong++;
-            System.out.println(promise + ": " + what + " answered " + got + ", due is " + want);
-        }
-    }
-
-    /** The call throws exactly this, and the object is as before. */
-    private static void refused(String what, PairNames x, String exception, Supplier<Object> call) {
-        String before = look(x);
-        String thrown = "nothing";
-        try {
-            call.get();
-        } catch (RuntimeException e) {
-            thrown = e.getClass().getSimpleName();
-        }
-        due(what + " throws", thrown, exception);
-        due("after " + what, look(x), before);
-    }
-
-    private static void type(PairNames x, String text) {
-        for (int i = 0; i < text.length(); i++) {
-            x.append(text.charAt(i));
-        }
-    }
-
-    private static int grow(PairNames x, String text) {
-        type(x, text);
-        return x.grow();
-    }
-
-    private static PairNames with(String text) {
-        PairNames x = new PairNames();
-        grow(x, text);
-        return x;
-    }
-
-    /** The row, a sign as its letter and a name as its number in brackets. */
-    private static String row(PairNames x) {
-        StringBuilder row = new StringBuilder();
-        for (int i = 0; x.part(i) != PairNames.NONE; i++) {
-            row.append(shown(x.part(i)));
-        }
-        return row.toString();
-    }
-
-    private static String shown(int part) {
-        return part < 8 ? String.valueOf((char) ('a' + part)) : "[" + part + "]";
-    }
-
-    private static boolean hasName(PairNames x, int name) {
-        try {
-            x.about(name, 0);
-            return true;
-        } catch (IndexOutOfBoundsException e) {
-            return false;
-        }
-    }
-
-    private static String names(PairNames x) {
-        StringBuilder names = new StringBuilder();
-        for (int name = 8; name < 24; name++) {
-            if (hasName(x, name)) {
-                names.append(name).append('=').append(shown(x.about(name, 0)));
-                names.append(shown(x.about(name, 1))).append(' ');
-            }
-        }
-        return names.toString().trim();
-    }
-
-    private static String look(PairNames x) {
-        StringBuilder all = new StringBuilder(row(x)).append(" / ").append(names(x));
-        for (int i = 0; i <= 8; i++) {
-            all.append(' ').append(x.count(i));
-        }
-        all.append(" / ").append(x.setting(0)).append(' ').append(x.setting(1));
-        return all.append(' ').append(x.firstError()).append(' ').append(x.digest()).toString();
-    }
-
-    private static String text(PairNames x) {
-        StringBuilder text = new StringBuilder();
-        for (int i = 0; i < 64 && x.sign(i) != PairNames.NONE; i++) {
-            text.append((char) ('a' + x.sign(i)));
-        }
-        return text.toString();
-    }
-
-    /** A row of names that double: name 8 is aa, each later one twice the one before. */
-    private static PairNames doubled(int names) {
-        PairNames x = with("a4");
-        for (int name = 8; name < 8 + names; name++) {
-            due("a doubling name", x.name(), name);
-            if (name < 7 + names) {
-                x.add(name);
-                x.add(name);
-            }
-        }
-        return x;
-    }
-
-    /** All 16 names in use, each for an unlike pair that is there twice. */
-    private static PairNames sixteenNames() {
-        PairNames x = new PairNames();
-        for (int i = 0; i < 16; i++) {
-            int first = i < 8 ? 0 : 1;
-            x.add(first);
-            x.add(i % 8);
-            x.add(first);
-            x.add(i % 8);
-            x.name();
-        }
-        return x;
+        finish();
     }
 
     // ---- the promises
 
     private static void newObject() {
-        promise = "1 new object";
+        tested = "1 new object";
         PairNames x = new PairNames();
         due("NONE", PairNames.NONE, -1);
         due("row", row(x), "");
@@ -182,7 +50,7 @@ public final class PromiseTests {
     }
 
     private static void grow() {
-        promise = "2 grow";
+        tested = "2 grow";
         PairNames x = new PairNames();
         due("grow", grow(x, "ab3h"), 5);
         due("row", row(x), "abbbh");
@@ -220,7 +88,7 @@ public final class PromiseTests {
     }
 
     private static void add() {
-        promise = "3 add";
+        tested = "3 add";
         PairNames x = new PairNames();
         due("add(0)", x.add(0), 1);
         due("add(7)", x.add(7), 2);
@@ -250,7 +118,7 @@ public final class PromiseTests {
     }
 
     private static void cut() {
-        promise = "4 cut";
+        tested = "4 cut";
         PairNames x = with("abab");
         due("no names", x.cut(3), 0);
         due("row", row(x), "aba");
@@ -282,7 +150,7 @@ public final class PromiseTests {
     }
 
     private static void open() {
-        promise = "5 open";
+        tested = "5 open";
         PairNames x = with("cabcabab");
         x.nameAll();
         due("open(1)", x.open(1), 9);
@@ -326,7 +194,7 @@ public final class PromiseTests {
     }
 
     private static void name() {
-        promise = "6 name";
+        tested = "6 name";
         PairNames x = with("abcab");
         due("most often", x.name(), 8);
         due("row", row(x), "[8]c[8]");
@@ -385,7 +253,7 @@ public final class PromiseTests {
     }
 
     private static void nameAll() {
-        promise = "7 nameAll";
+        tested = "7 nameAll";
         PairNames x = with("abcabcabd");
         due("steps", x.nameAll(), 2);
         due("row", row(x), "[8][9][9]d");
@@ -409,7 +277,7 @@ public final class PromiseTests {
     }
 
     private static void letGo() {
-        promise = "8 letGo";
+        tested = "8 letGo";
         PairNames x = with("cabcabab");
         x.nameAll();
         due("none is rare", x.letGo(), 0);
@@ -473,7 +341,7 @@ public final class PromiseTests {
     }
 
     private static void openAll() {
-        promise = "9 openAll";
+        tested = "9 openAll";
         PairNames x = with("abcabcabd");
         x.nameAll();
         due("parts", x.openAll(), 9);
@@ -495,7 +363,7 @@ public final class PromiseTests {
     }
 
     private static void set() {
-        promise = "10 set";
+        tested = "10 set";
         PairNames x = new PairNames();
         due("set(0, 9)", x.set(0, 9), 2);
         due("set(0, 2)", x.set(0, 2), 9);
@@ -522,7 +390,7 @@ public final class PromiseTests {
     }
 
     private static void append() {
-        promise = "11 append";
+        tested = "11 append";
         PairNames x = new PairNames();
         due("append(33)", x.append(33), 1);
         due("append(126)", x.append(126), 2);
@@ -542,7 +410,7 @@ public final class PromiseTests {
     }
 
     private static void clearBuffer() {
-        promise = "12 clearBuffer";
+        tested = "12 clearBuffer";
         PairNames x = with("ab");
         due("empty", x.clearBuffer(), 0);
         type(x, "zz~");
@@ -553,7 +421,7 @@ public final class PromiseTests {
     }
 
     private static void firstError() {
-        promise = "13 firstError";
+        tested = "13 firstError";
         String[] texts = {"", "a", "h", "a2", "a9h9", "abc", "a2b", "a22", "a1", "a0", "2", "i", "A", "`",
             "ab3c33", "ab:", "a/", "a2!x", "h9h9h9i", "g8f7e6d5c4b3a2"};
         int[] errors = {0, 1, 1, 2, 4, 3, 3, 2, 1, 1, 0, 0, 0, 0, 5, 2, 1, 2, 6, 14};
@@ -577,7 +445,7 @@ public final class PromiseTests {
     }
 
     private static void undo() {
-        promise = "14 undo";
+        tested = "14 undo";
         PairNames x = new PairNames();
         refused("nothing saved", x, ISE, x::undo);
         grow(x, "abab");
@@ -643,7 +511,7 @@ public final class PromiseTests {
     }
 
     private static void part() {
-        promise = "15 part";
+        tested = "15 part";
         PairNames x = with("abab");
         x.name();
         x.add(7);
@@ -661,7 +529,7 @@ public final class PromiseTests {
     }
 
     private static void sign() {
-        promise = "16 sign";
+        tested = "16 sign";
         PairNames x = with("abcabcabd");
         x.nameAll();
         due("text", text(x), "abcabcabd");
@@ -679,7 +547,7 @@ public final class PromiseTests {
     }
 
     private static void about() {
-        promise = "17 about";
+        tested = "17 about";
         PairNames x = with("abcabcabcb");
         x.nameAll();
         x.add(8);
@@ -733,7 +601,7 @@ public final class PromiseTests {
     }
 
     private static void pair() {
-        promise = "18 pair";
+        tested = "18 pair";
         int[] twins = {0, 0, 1, 1, 2, 2, 3, 3, 4, 4};
         for (int parts = 1; parts <= 9; parts++) {
             due("aa in " + parts + " a", with("a" + (parts > 1 ? parts : "")).pair(0, 0), twins[parts]);
@@ -763,7 +631,7 @@ public final class PromiseTests {
     }
 
     private static void next() {
-        promise = "19 next";
+        tested = "19 next";
         PairNames x = with("cbcbcbabab");
         nextIs(x, 2, 1, 3, 8);
         x.name();
@@ -799,7 +667,7 @@ public final class PromiseTests {
     }
 
     private static void count() {
-        promise = "20 count";
+        tested = "20 count";
         PairNames x = with("abcabcabd");
         counts(x, 9, 0, 9, 4, 0, 9, 0, 0, 1);
         x.nameAll();
@@ -830,7 +698,7 @@ public final class PromiseTests {
     }
 
     private static void times() {
-        promise = "21 times";
+        tested = "21 times";
         PairNames x = with("abcabcabd");
         x.nameAll();
         int[] want = {3, 3, 2, 1, 0, 0, 0, 0};
@@ -847,7 +715,7 @@ public final class PromiseTests {
     }
 
     private static void setting() {
-        promise = "22 setting";
+        tested = "22 setting";
         PairNames x = new PairNames();
         due("setting(0)", x.setting(0), 2);
         due("setting(1)", x.setting(1), 2);
@@ -862,7 +730,7 @@ public final class PromiseTests {
     }
 
     private static void ifNamed() {
-        promise = "23 ifNamed";
+        tested = "23 ifNamed";
         PairNames x = with("abcabcabd");
         ifNamedIs(x, 2, 4, 8, 2);
         due("nothing is changed", row(x), "abcabcabd");
@@ -886,7 +754,7 @@ public final class PromiseTests {
     }
 
     private static void bestOften() {
-        promise = "24 bestOften";
+        tested = "24 bestOften";
         due("an empty row", new PairNames().bestOften(), 2);
         // A name for k occurrences takes 2 and saves k, and a greater setting only stops earlier.
         due("4 with 2, 4 with more: the lowest one", with("abab").bestOften(), 2);
@@ -920,7 +788,7 @@ public final class PromiseTests {
     }
 
     private static void saved() {
-        promise = "25 saved";
+        tested = "25 saved";
         due("an empty row", new PairNames().saved(), 0.0);
         PairNames x = with("abcabcabd");
         due("no names", x.saved(), 0.0);
@@ -935,68 +803,36 @@ public final class PromiseTests {
     }
 
     private static void digest() {
-        promise = "26 digest";
-        due("a new object", new PairNames().digest(), hash(new PairNames(), ""));
-        PairNames x = new PairNames();
-        type(x, "ab!");
-        due("with a buffer", x.digest(), hash(x, "ab!"));
-        x = with("abcabcabd");
-        due("a text", x.digest(), hash(x, ""));
-        x.name();
-        due("one name", x.digest(), hash(x, ""));
-        x.nameAll();
-        due("all names", x.digest(), hash(x, ""));
-        x.cut(1);
-        due("a share below 0", x.digest(), hash(x, ""));
-        PairNames deep = doubled(16);
-        type(deep, "z".repeat(60));
-        due("deep", deep.digest(), hash(deep, "z".repeat(60)));
-        PairNames long64 = with("a9a9a9a9a9a9a9a");
-        due("64 parts", long64.digest(), hash(long64, ""));
-        due("twice alike", long64.digest(), long64.digest());
+        tested = "26 digest";
+        digestOf("a new object", PairNames::new, "");
+        digestOf("with a buffer", PairNames::new, "ab!");
+        digestOf("a text", () -> with("abcabcabd"), "");
+        digestOf("one name", () -> named("abcabcabd", 1), "h2");
+        digestOf("all names", () -> named("abcabcabd", 3), "");
+        digestOf("a share below 0", () -> cutNames(), "");
+        digestOf("deep", () -> doubled(16), "z".repeat(60));
+        digestOf("64 parts", () -> with("a9a9a9a9a9a9a9a"), "a");
+        PairNames x = with("abab");
+        due("twice alike", x.digest(), x.digest());
     }
 
-    /** The hash as the document words it, from the other calls of the face. */
-    private static long hash(PairNames x, String buffer) {
-        long h = 2749;
-        for (int i = 0; i <= 8; i++) {
-            h = 31 * h + x.count(i);
+    private static PairNames named(String text, int calls) {
+        PairNames x = with(text);
+        for (int i = 0; i < calls; i++) {
+            x.name();
         }
-        h = 31 * h + x.setting(0);
-        h = 31 * h + x.setting(1);
-        for (int i = 0; i < x.count(0); i++) {
-            h = 31 * h + x.part(i);
-        }
-        for (int sign = 0; sign < 8; sign++) {
-            h = 31 * h + x.times(sign);
-            h = 31 * h + x.about(sign, 2);
-            h = 31 * h + x.about(sign, 3);
-        }
-        for (int name = 8; name < 24; name++) {
-            if (hasName(x, name)) {
-                h = 31 * h + name;
-                for (int what = 0; what <= 7; what++) {
-                    h = 31 * h + x.about(name, what);
-                }
-            }
-        }
-        for (int i = 0; i < 64; i++) {
-            h = 31 * h + x.sign(i);
-        }
-        for (int what = 0; what <= 3; what++) {
-            h = 31 * h + x.next(what);
-        }
-        h = 31 * h + x.pair(0, 1);
-        h = 31 * h + x.pair(0, 0);
-        for (int what = 0; what <= 3; what++) {
-            h = 31 * h + x.ifNamed(what);
-        }
-        h = 31 * h + x.bestOften();
-        h = 31 * h + Double.doubleToLongBits(x.saved());
-        h = 31 * h + buffer.length();
-        for (int i = 0; i < buffer.length(); i++) {
-            h = 31 * h + buffer.charAt(i);
-        }
-        return h;
+        return x;
+    }
+
+    private static PairNames cutNames() {
+        PairNames x = named("abcabcabd", 2);
+        x.cut(1);
+        return x;
+    }
+
+    private static void digestOf(String what, Maker maker, String buffer) {
+        PairNames x = maker.make();
+        type(x, buffer);
+        due(what, x.digest(), hash(maker.make(), buffer).longValue());
     }
 }
