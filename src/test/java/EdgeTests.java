@@ -263,6 +263,7 @@ public final class EdgeTests extends Checks {
         PairNames two = with("a3ba3");
         two.name();
         due("in each run of a anew", row(two), "[8]ab[8]a");
+        shortRows("");
 
         says("A step of naming: of all pairs that occur at least setting 0 times, the one that occurs most, of several "
             + "the one whose first part is the lowest, of these the one whose second part is the lowest, gets a name: "
@@ -287,6 +288,35 @@ public final class EdgeTests extends Checks {
         free.cut(30);
         grow(free, "hghg");
         due("with 15 names there is one", free.name(), 23);
+    }
+
+    /** Each row of a, b and c up to seven parts that begins so, with places that String finds. */
+    private static void shortRows(String text) {
+        if (!text.isEmpty()) {
+            PairNames x = with(text);
+            String best = "";
+            for (String pair : new String[] {"aa", "ab", "ac", "ba", "bb", "bc", "ca", "cb", "cc"}) {
+                int times = occurrences(text, pair);
+                due(pair + " in " + text, x.pair(pair.charAt(0) - 'a', pair.charAt(1) - 'a'), times);
+                best = times > Math.max(1, occurrences(text, best)) ? pair : best;
+            }
+            due("how often the next one occurs in " + text, x.next(2), best.isEmpty() ? -1 : occurrences(text, best));
+            x.name();
+            due("a step in " + text, row(x), best.isEmpty() ? text : text.replace(best, "[8]"));
+        }
+        for (char letter = 'a'; letter <= 'c' && text.length() < 7; letter++) {
+            shortRows(text + letter);
+        }
+    }
+
+    private static int occurrences(String text, String pair) {
+        int times = 0;
+        int at = pair.isEmpty() ? -1 : text.indexOf(pair);
+        while (at >= 0) {
+            times++;
+            at = text.indexOf(pair, at + 2);
+        }
+        return times;
     }
 
     private static void steps() {
