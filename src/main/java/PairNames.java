@@ -352,9 +352,10 @@ public final class PairNames {
 
     private long mixTotals(long hash) {
         long mixed = hash;
-        for (int what = 0; what <= 8; what++) {
-            mixed = mix(mixed, count(what));
+        for (int what = 0; what <= 7; what++) {
+            mixed = mix(mixed, state.total(what));
         }
+        mixed = mix(mixed, history.amount);
         for (int setting = 0; setting < SETTINGS; setting++) {
             mixed = mix(mixed, state.settings.at(setting));
         }
@@ -992,7 +993,7 @@ public final class PairNames {
 
         void restore(State state) {
             int latest = free > 0 ? free - 1 : SAVED_LIMIT - 1;
-            State kept = latest < states.length ? states[latest] : null;
+            State kept = latest >= 0 && latest < states.length ? states[latest] : null;
             if (kept != null && amount > 0) {
                 state.copyFrom(kept);
                 free = latest;

@@ -1591,11 +1591,20 @@ public final class EdgeTests extends Checks {
         returns("the hash.");
         List<Maker> makers = List.of(EdgeTests::empty, EdgeTests::fullOfSigns, EdgeTests::fullWithNames,
             EdgeTests::twoNames, EdgeTests::oneUse, EdgeTests::gone, EdgeTests::deepest, EdgeTests::sixteenNames,
-            EdgeTests::almostSixteen, EdgeTests::lowNameOfHigh, EdgeTests::nameGone, EdgeTests::named64);
+            EdgeTests::almostSixteen, EdgeTests::lowNameOfHigh, EdgeTests::nameGone, EdgeTests::named64,
+            EdgeTests::unlikeSettings);
         for (Maker maker : makers) {
             wrapsAround(maker, "");
             wrapsAround(maker, "~!".repeat(30));
         }
+    }
+
+    /** Naming makes two steps with setting 0, three with the number that setting 1 has. */
+    private static PairNames unlikeSettings() {
+        PairNames x = with("a9a9a9a9a9a9a9a");
+        x.set(0, 9);
+        x.set(1, 5);
+        return x;
     }
 
     /** The hash without a limit is far beyond a long; its lowest 64 bits are the digest. */

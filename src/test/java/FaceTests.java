@@ -12,8 +12,13 @@ import java.util.TreeSet;
 import java.util.regex.Matcher;
 import java.util.regex.Pattern;
 
-/** The public face is that of the document, and the source has no word that its Java leaves out. */
-public final class FaceTests {
+/** The public face is that of the document, in the document's words and order, and there is no other. */
+public final class FaceTests extends Checks {
+
+    private static final Path DOCUMENT = Path.of("../shared/DOC.md");
+    private static final Path SOURCE = Path.of("src/main/java/PairNames.java");
+
+    private static final Pattern AHEAD = Pattern.compile("Ahead of the calls `(\\w+)`.* the interface says: (---- .*)\\.");
 
     private static final String[] FACE = {
         "int grow()", "int add(int)", "int cut(int)", "int open(int)", "int name()", "int nameAll()", "int letGo()",
@@ -22,36 +27,19 @@ public final class FaceTests {
         "int count(int)", "int times(int)", "int setting(int)", "int ifNamed(int)", "int bestOften()",
         "double saved()", "long digest()"};
 
-    private static final String[] LEFT_OUT = {
-        "\\bimport\\b", "\\bpackage\\b", "->", "::", "\\bcatch\\b", "\\bfinally\\b", "\\btry\\b", "\\bassert\\b",
-        "\\bsynchronized\\b", "\\binstanceof\\b", "\\bDouble\\.", "\\bFloat\\.", "\\bSystem\\.", "\\bObject\\b",
-        "\\w+Exact\\b", "\\bequals\\b", "\\bhashCode\\b", "\\btoString\\b", "\\bMAX_VALUE\\b", "\\bMIN_VALUE\\b",
-        "\\bgetMessage\\b", "\\bObjects\\b", "\\bThread\\b", "\\bprotected\\b", "\\bstatic\\s*\\{", "\\bwhile\\s*\\(true"};
-
-    private static int wrong = 0;
-
     public static void main(String[] args) throws IOException {
-        face();
-        source();
-        System.out.println(wrong == 0 ? "the face is as due" : wrong + " faults");
-        if (wrong != 0) {
-            System.exit(1);
-        }
+        members();
+        words();
+        finish();
     }
 
-    private static void due(String what, Object got, Object want) {
-        if (!got.equals(want)) {
-            wrong++;
-            System.out.println(what + " is " + got + ", due is " + want);
-        }
-    }
-
-    private static void face() {
+    private static void members() {
+        tested = "the members";
         due("class is public and final", PairNames.class.getModifiers(), Modifier.PUBLIC | Modifier.FINAL);
         TreeSet<String> methods = new TreeSet<>();
         for (Method method : PairNames.class.getDeclaredMethods()) {
             if (!Modifier.isPrivate(method.getModifiers()) && !method.isSynthetic()) {
-                due(method + " static", Modifier.isStatic(method.getModifiers()), false);
+                due("modifiers of " + method, method.getModifiers(), Modifier.PUBLIC);
                 methods.add(shown(method));
             }
         }
@@ -72,7 +60,6 @@ public final class FaceTests {
             publicNames.add(method.substring(method.indexOf(' ') + 1, method.indexOf('(')));
         }
         noSecondBearer(PairNames.class, publicNames);
-        due("classes", PairNames.class.getDeclaredClasses().length <= 12, true);
         for (Class<?> inside : PairNames.class.getDeclaredClasses()) {
             noSecondBearer(inside, publicNames);
         }
@@ -95,17 +82,49 @@ public final class FaceTests {
         }
     }
 
-    private static void source() throws IOException {
-        byte[] bytes = Files.readAllBytes(Path.of("src/main/java/PairNames.java"));
-        String text = new String(bytes, StandardCharsets.ISO_8859_1);
-        String code = text.replaceAll("(?s)/\\*.*?\\*/", " ").replaceAll("//[^\n]*", " ");
-        for (String left : LEFT_OUT) {
-            due("'" + left + "' in the source", Pattern.compile(left).matcher(code).find(), false);
+    /** Each line of the document's interface stands in the source: names of parameters, throws clauses, the order. */
+    private static void words() throws IOException {
+        tested = "the document's interface";
+        String source = Files.readString(SOURCE, StandardCharsets.ISO_8859_1).replaceAll("\\s+", " ");
+        int last = -1;
+        for (String due : lines()) {
+            int at = source.indexOf(due);
+            due("'" + due + "' is in the source", at >= 0, true);
+            due("'" + due + "' is there once", source.indexOf(due, at + 1), -1);
+            due("'" + due + "' is in its order", at > last, true);
+            last = at;
         }
-        due("all characters are ASCII", text.chars().allMatch(c -> c < 128), true);
-        Matcher thrown = Pattern.compile("throw new (\\w+)\\(").matcher(code);
-        while (thrown.find()) {
-            due("thrown", thrown.group(1).matches("Ill.*(State|Argument)Exception|IndexOutOfBoundsException"), true);
+    }
+
+    private static List<String> lines() throws IOException {
+        List<String> all = new ArrayList<>();
+        List<String> document = Files.readAllLines(DOCUMENT);
+        for (String line : document) {
+            if (line.startsWith("    public ") || line.startsWith("public ")) {
+                all.add(line.contains("(") ? line.trim().replaceFirst(";$", " {") : line.trim());
+            }
         }
+        due("the class, the constant, the constructor and 25 methods", all.size(), 28);
+        int groups = 0;
+        for (String line : document) {
+            Matcher ahead = AHEAD.matcher(line);
+            if (ahead.matches()) {
+                groups++;
+                int first = indexOfCall(all, ahead.group(1));
+                due("the interface has " + ahead.group(1), first >= 0, true);
+                all.add(Math.max(first, 0), "// " + ahead.group(2));
+            }
+        }
+        due("groups of calls", groups, 5);
+        return all;
+    }
+
+    private static int indexOfCall(List<String> lines, String call) {
+        for (int i = 0; i < lines.size(); i++) {
+            if (lines.get(i).contains(" " + call + "(")) {
+                return i;
+            }
+        }
+        return -1;
     }
 }
